@@ -1066,6 +1066,11 @@ public final class RopeRooms {
 
     /** The mechanics: what rooms BEAR, how ROPES PULL and go, how high PLACES are. */
     private static final class Works {
+        /** Ways of the first room to REST, as bits. */
+        static final int HELD = 1;
+        static final int DOWN = 2;
+        static final int UP = 4;
+
         final int[] bears = new int[ROOMS];
         /** PULL but for what a heavy rope adds, which alone changes as it goes. */
         final int[] lean = new int[ROPES];
@@ -1144,6 +1149,21 @@ public final class RopeRooms {
                 return state.x[p];
             }
             return to < 0 ? 0 : plan.length[p];
+        }
+
+        /** The ways in which a ROPE can go to REST, if what its rooms BEAR changes by so much at most. */
+        int waysWithin(Plan plan, State state, int p, int change) {
+            int held = state.on[p] ? plan.hold[p] : 0;
+            int pull = pull(plan, p, state.x[p]);
+            int slack = plan.kind[p] == Plan.SCREW ? 0 : change * plan.stride(p);
+            int ways = pull + slack > held ? DOWN : 0;
+            if (pull - slack < -held) {
+                ways |= UP;
+            }
+            if (pull - slack <= held && pull + slack >= -held) {
+                ways |= HELD;
+            }
+            return ways;
         }
 
         /** To REST, behind weigh: how many MINUTES. */
@@ -1466,11 +1486,14 @@ public final class RopeRooms {
     /** PAILS: the search for the fewest, in the order in which ties are broken. */
     private static final class Pails {
         private static final int MOST = 4;
+        private static final int ANY_WAY = 7;
 
         final int[] given = new int[ROOMS];
         private final int[] useful = new int[ROOMS];
         private int rooms;
         private final int[] high = new int[ROOMS];
+        /** The ways (bits of Works) in which each ROPE may go to REST, so that all WANTED can be so. */
+        private final int[] ways = new int[ROPES];
 
         /** Behind weigh: how many, and in given how many into each room; NONE if not with 4. */
         int fewest(Plan plan, State state, Works works, int[] wanted) {
@@ -1478,13 +1501,13 @@ public final class RopeRooms {
                 given[r] = 0;
             }
             int matter = mattering(plan, wanted);
-            rooms = 0;
-            for (int r = 0; r < 2 * plan.ropes; r++) {
-                if (moves(plan, r, matter)) {
-                    useful[rooms] = r;
-                    rooms++;
-                }
+            for (int p = 0; p < ROPES; p++) {
+                ways[p] = (matter >> p & 1) == 0 ? ANY_WAY : 0;
             }
+            if (!findWays(plan, state, wanted, matter, 0)) {
+                return NONE;
+            }
+            findUseful(plan, matter);
             for (int n = 0; n <= MOST; n++) {
                 if (search(plan, state, works, wanted, 0, n)) {
                     return n;
@@ -1507,6 +1530,16 @@ public final class RopeRooms {
             return bits;
         }
 
+        private void findUseful(Plan plan, int matter) {
+            rooms = 0;
+            for (int r = 0; r < 2 * plan.ropes; r++) {
+                if (moves(plan, r, matter)) {
+                    useful[rooms] = r;
+                    rooms++;
+                }
+            }
+        }
+
         private static boolean moves(Plan plan, int room, int matter) {
             int r = room;
             for (int i = 0; i < ROPES && r >= 0; i++) {
@@ -1518,8 +1551,44 @@ public final class RopeRooms {
             return false;
         }
 
+        /** Whether the ROPES from p on can end with all WANTED so, those ahead being as high tells. */
+        private boolean findWays(Plan plan, State state, int[] wanted, int matter, int p) {
+            if (p >= plan.ropes || p >= ROPES) {
+                return true;
+            }
+            if ((matter >> p & 1) == 0) {
+                return findWays(plan, state, wanted, matter, p + 1);
+            }
+            boolean can = false;
+            for (int way = Works.HELD; way <= Works.UP; way <<= 1) {
+                int x = way == Works.DOWN ? 0 : plan.length[p];
+                x = way == Works.HELD ? state.x[p] : x;
+                if (isSo(plan, wanted, p, x) && findWays(plan, state, wanted, matter, p + 1)) {
+                    ways[p] |= way;
+                    can = true;
+                }
+            }
+            return can;
+        }
+
+        /** Whether both rooms of a ROPE are as WANTED with an X, those ahead being as high tells. */
+        private boolean isSo(Plan plan, int[] wanted, int p, int x) {
+            int on = plan.hangs[p];
+            int foot = on >= 0 && on < 2 * p ? high[on] : 0;
+            for (int r = 2 * p; r <= 2 * p + 1; r++) {
+                high[r] = foot + plan.place(r, x);
+                if (wanted[r] != NONE && wanted[r] != high[r]) {
+                    return false;
+                }
+            }
+            return true;
+        }
+
         /** Greater numbers first, room by room, so that the first found is the one that is due. */
         private boolean search(Plan plan, State state, Works works, int[] wanted, int index, int left) {
+            if (isHopeless(plan, state, works, left)) {
+                return false;
+            }
             if (left == 0) {
                 return fits(plan, state, works, wanted);
             }
@@ -1530,15 +1599,25 @@ public final class RopeRooms {
             int in = Math.min(left, MOST_WATER - state.water[room]);
             int out = Math.min(left, state.water[room]);
             for (int n = in; n >= -out; n--) {
-                int rest = left - Math.abs(n);
-                if (rest == 0 || index + 1 < rooms) {
+                int more = left - Math.abs(n);
+                if (more == 0 || index + 1 < rooms) {
                     give(plan, works, room, n);
-                    if (search(plan, state, works, wanted, index + 1, rest)) {
+                    if (search(plan, state, works, wanted, index + 1, more)) {
                         return true;
                     }
                 }
             }
             give(plan, works, room, 0);
+            return false;
+        }
+
+        /** Some ROPE can't be brought to go as it must by the PAILS that are left. */
+        private boolean isHopeless(Plan plan, State state, Works works, int left) {
+            for (int p = 0; p < plan.ropes; p++) {
+                if (ways[p] != ANY_WAY && (ways[p] & works.waysWithin(plan, state, p, left)) == 0) {
+                    return true;
+                }
+            }
             return false;
         }
 
@@ -1554,14 +1633,8 @@ public final class RopeRooms {
 
         private boolean fits(Plan plan, State state, Works works, int[] wanted) {
             for (int p = 0; p < plan.ropes; p++) {
-                int x = works.restingX(plan, state, p);
-                int on = plan.hangs[p];
-                int foot = on >= 0 && on < 2 * p ? high[on] : 0;
-                for (int r = 2 * p; r <= 2 * p + 1; r++) {
-                    high[r] = foot + plan.place(r, x);
-                    if (wanted[r] != NONE && wanted[r] != high[r]) {
-                        return false;
-                    }
+                if (!isSo(plan, wanted, p, works.restingX(plan, state, p))) {
+                    return false;
                 }
             }
             return true;
