@@ -1803,7 +1803,8 @@ public final class RopeRooms {
             for (int t = 0; t < folk.tasks; t++) {
                 int who = folk.taskPerson[t];
                 int to = folk.taskPlace[t];
-                if ((used >> t & 1) == 0 && works.meeting(plan, row, folk, row.at[who], to)) {
+                boolean open = (used >> t & 1) == 0 && who >= 0 && who < PERSONS;
+                if (open && works.meeting(plan, row, folk, row.at[who], to)) {
                     next.take(row);
                     next.at[who] = to;
                     goThrough(plan, folk, works, done + 1, used | 1 << t, digits * 10 + t);

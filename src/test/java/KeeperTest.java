@@ -157,6 +157,7 @@ public final class KeeperTest {
         CHECK.due("tried(-1, 1, 0)", r.tried(-1, 1, 0), -1);
         CHECK.due("tried(0, 1, 2)", r.tried(0, 1, 2), -1);
         CHECK.due("tried(0, 1, -1)", r.tried(0, 1, -1), -1);
+        CHECK.due("travel behind 1", r.tried(0, 1, 0) >= 1, true);
         CHECK.due("wanted so behind 2", r.tried(0, 2, 1), 0);
         CHECK.due("wanted so behind 3: room 3", r.tried(0, 3, 1), 1);
         CHECK.due("wanted so behind 4: room 2", r.tried(0, 4, 1), 1);

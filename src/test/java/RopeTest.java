@@ -184,6 +184,27 @@ public final class RopeTest {
             CHECK.due("the second draws alone, minute " + m, s.rope(1, 2), up);
         }
         CHECK.due("the first was free", s.rope(0, 2), 12);
+        x = seed;
+        up = 0;
+        RopeRooms t = Check.town("l20,b11;l20,b11,s50", seed);
+        for (int m = 0; m < 12; m++) {
+            x = x * 6364136223846793005L + 1442695040888963407L;
+            up += (x >>> 33) % 100 < 50 ? 1 : 0;
+            t.minutes(1);
+            CHECK.due("no draws for s0, minute " + m, t.rope(1, 2), up);
+        }
+        x = 0;
+        up = 0;
+        RopeRooms one = Check.town("l20,b11,s1");
+        for (int m = 0; m < 10; m++) {
+            for (int i = 0; i < 60; i++) {
+                x = x * 6364136223846793005L + 1442695040888963407L;
+                up += (x >>> 33) % 100 < 1 ? 1 : 0;
+            }
+            one.minutes(60);
+            CHECK.due("s1 slips now and then", one.rope(0, 2), Math.min(20, up));
+        }
+        CHECK.due("it did", up > 0, true);
         RopeRooms never = Check.town("l20,b11,s0", seed);
         CHECK.due("s0 never slips", never.minutes(60), 0);
     }

@@ -168,6 +168,8 @@ public final class ShapeTest {
         r.person(9, 7);
         CHECK.due("a person there", r.strain(3), 93);
         CHECK.due("and what it hangs on", r.strain(0), 93);
+        CHECK.due("of two the second", Check.town("l4;l4,a11;l4").strain(-1), 1);
+        CHECK.due("of two the first", Check.town("l4,a12;l4,a11").strain(-1), 0);
         RopeRooms s = Check.town("k2,l4,r2;k1,l6,r3");
         CHECK.due("a heavy screw", s.strain(0), 28);
         CHECK.due("a heavy geared one", s.strain(1), 38);
@@ -180,6 +182,7 @@ public final class ShapeTest {
         CHECK.due("above(1)", r.above(1), 16);
         CHECK.due("above(2)", r.above(2), 2 | 16 | 32);
         CHECK.due("above(4)", r.above(4), 0);
+        CHECK.due("room 0 above the other", Check.town("l6,x4").above(1), 1);
         CHECK.due("above(6)", r.above(6), -1);
         CHECK.due("above(-1)", r.above(-1), -1);
     }

@@ -90,6 +90,15 @@ public final class TapeTest {
         CHECK.due("nothing of them came", r.count(2), 159);
         CHECK.due("one byte at 159", r.feed(0, 0, 0, 0, 0x34), 160);
         CHECK.due("fault behind 159 blanks", r.fault(0), 159);
+        // Each byte of each number counts towards 160, wherever it stands.
+        for (int i = 0; i < 20; i++) {
+            int[] w = new int[5];
+            w[i / 4] = 0x34 << 8 * (i % 4);
+            r.end(160);
+            CHECK.due("one byte too many, " + i, r.feed(w[0], w[1], w[2], w[3], w[4]), -1);
+            r.end(159);
+            CHECK.due("the last byte, " + i, r.feed(w[0], w[1], w[2], w[3], w[4]), 160);
+        }
     }
 
     /** Promise 3. */
@@ -282,6 +291,7 @@ public final class TapeTest {
         CHECK.due("the faulty tape stays", r.count(2), 8);
         for (int i = 0; i < 4; i++) {
             CHECK.due("rule " + i, Check.rule(r, "y:" + i), i);
+            CHECK.due("its tape is empty", r.count(2), 0);
         }
         CHECK.due("a fifth rule", Check.rule(r, "y:4"), -1);
         CHECK.due("its tape stays", r.count(2), 3);

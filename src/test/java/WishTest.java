@@ -105,6 +105,23 @@ public final class WishTest {
         due(u, "the other room of it", 1, 0, 0, 0, 1);
         u.want(2, -1);
         due(u, "the first room that does it", 1, 1, 0, 0, 0);
+        // Heights of what hangs go by the room that carries it, room 0 too.
+        RopeRooms v = Check.town("l6,x2,a10,b30,h1;l4,x2,h1,u0;l9,x1,h2");
+        v.want(2, 2);
+        due(v, "two in 0: down with it", 2, 2, 0, 0, 0, 0, 0);
+        v.want(2, 6 + 4);
+        due(v, "up to the end of both: more in 3 weighs on 0", -1000000);
+        v.want(2, 6 + 2);
+        due(v, "two more in 1", 2, 0, 2, 0, 0, 0, 0);
+        v.want(3, 6 + 2);
+        v.want(4, 1);
+        due(v, "and others stay", 2, 0, 2, 0, 0, 0, 0);
+        v.want(4, 0);
+        due(v, "and three into another", -1000000);
+        v.water(5, 1);
+        v.want(2, 2 + 2);
+        v.want(3, 2 + 2);
+        due(v, "those stay", 4, 0, 0, 0, 0, 4, 0);
         // Screws are not moved by water.
         RopeRooms k = Check.town("k2,l6,x2,h0");
         k.want(0, 3);
@@ -290,6 +307,7 @@ public final class WishTest {
         RopeRooms t = Check.town("l9,x9");
         CHECK.due("heights 9 0", t.even(0), 0);
         CHECK.due("one", t.even(1), 1);
+        CHECK.due("heights 0 9", Check.town("l9,x0").even(0), 0);
         RopeRooms u = Check.town("l6,x6;l2,x1,u0");
         CHECK.due("heights 6 0 7 7", u.even(0), 7);
         CHECK.due("two", u.even(1), 2);
