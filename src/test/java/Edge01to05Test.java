@@ -33,6 +33,7 @@ public final class Edge01to05Test {
         t.depths();
         t.telling();
         t.gone();
+        t.goneEverywhere();
     }
 
     // ---- helpers
@@ -140,6 +141,18 @@ public final class Edge01to05Test {
                     int due = has + more <= 160 ? has + more : -1;
                     e.due(more + " bytes to " + has, r.feed(w[0], w[1], w[2], w[3], w[4]), due);
                     e.due("count(2)", r.count(2), due == -1 ? has : due);
+                }
+            }
+        });
+        e.edge(2, "how many it has", () -> {
+            for (int one : new int[] {1, 2, 127, 128, 255}) {
+                for (int at = 0; at < 20; at++) {
+                    int[] w = new int[5];
+                    w[at / 4] = one << 8 * (at % 4);
+                    RopeRooms r = Edges.full();
+                    e.due("a byte of " + one + " to 160, at " + at, r.feed(w[0], w[1], w[2], w[3], w[4]), -1);
+                    r.end(159);
+                    e.due("a byte of " + one + " to 159, at " + at, r.feed(w[0], w[1], w[2], w[3], w[4]), 160);
                 }
             }
         });
@@ -615,6 +628,15 @@ public final class Edge01to05Test {
                     e.refuses("text(" + s + ") of '" + text + "'", () -> with(text), -1, r -> r.text(s, 7));
                 }
             }
+            RopeRooms later = new RopeRooms();
+            for (String text : new String[] {"y:1;", "y:1;y:(", "y:9999*9999;y:1=1?", "y:1;l4"}) {
+                e.due("'" + text + "' is no RULE", Check.rule(later, text), -1);
+                e.due("nor by fault", later.fault(1) >= 0, true);
+            }
+            e.due("a RULE behind them", Check.rule(later, "y:0"), 0);
+            Check.tape(later, "l4,x2,b11");
+            later.text(0, 0);
+            e.due("nothing of them is in it", later.keep(0, 1), 0);
             e.refuses("a TOWN is no RULE", () -> with("l4"), -1, r -> r.text(1, 7));
             e.refuses("a RULE is no TOWN", () -> with("y:1"), -1, r -> r.text(0, 7));
             e.refuses("without a TOWN", Edges::bare, -1, r -> r.text(0, 7));
@@ -684,6 +706,66 @@ public final class Edge01to05Test {
             RopeRooms fresh = Check.town("l8,x3,b11,s40;l8,x3", 42);
             e.due("draws", same.minutes(9), fresh.minutes(9));
             e.due("X then", same.rope(0, 2), fresh.rope(0, 2));
+        });
+    }
+
+    private void goneEverywhere() {
+        e.edge(5, "all that was of another one is gone", () -> {
+            RopeRooms r = Edges.full();
+            String level = "l4,x2;l4,x2;l4,x2;l4,x2;l4,x2;l4,x2";
+            for (int room = 0; room < 12; room++) {
+                r.water(room, 99);
+                r.want(room, 200);
+                r.woke(room, 200);
+            }
+            for (int one = 0; one < 18; one++) {
+                for (int other = one + 1; other < 18; other++) {
+                    r.beside(one, other, true);
+                }
+            }
+            for (int p = 0; p < 6; p++) {
+                r.brake(p, false);
+            }
+            Check.tape(r, level);
+            r.text(0, 0);
+            for (int g = 0; g < 6; g++) {
+                r.gallery(2);
+            }
+            for (int room = 0; room < 12; room++) {
+                e.due("WATER of " + room, r.room(room, 3), 0);
+                e.due("BEARS of " + room, r.room(room, 2), 10);
+            }
+            for (int p = 0; p < 6; p++) {
+                e.due("BRAKE of " + p, r.rope(p, 6), 1);
+            }
+            for (int place = 0; place < 18; place++) {
+                e.due("BESIDE " + place, r.group(place), 1 << place);
+            }
+            e.due("WANTED", r.together(1), 0);
+            e.due("SEEN", r.slipped(1), 63);
+        });
+        e.edge(5, "0 without", () -> {
+            // What another text told must not stay for a ROPE of which nothing is told.
+            String all = "k2,l4,x2,a1,b2,h3,s4,r5";
+            String last = ";u0,k2,l4,x2,a1,b2,h3,s4,r5";
+            RopeRooms r = new RopeRooms();
+            for (int round = 0; round < 4; round++) {
+                Check.tape(r, all + last + last);
+                r.fault(0);
+                Check.tape(r, all + last + ";q");
+                r.text(0, 0);
+                Check.tape(r, round % 2 == 0 ? "l10;k0;h5" : "x0;a10;b10");
+                e.due("three ROPES", r.text(0, 0), 3);
+                int[] due = {0, 10, 0, 5, 0, -1, 1, 0, 0, 0};
+                for (int p = 0; p < 3; p++) {
+                    for (int what = 0; what <= 9; what++) {
+                        e.due("rope(" + p + ", " + what + ")", r.rope(p, what), due[what]);
+                    }
+                    e.due("weights", r.room(2 * p, 1) * 100 + r.room(2 * p + 1, 1), 1010);
+                }
+                Check.tape(r, all + last + last);
+                r.text(0, 0);
+            }
         });
     }
 

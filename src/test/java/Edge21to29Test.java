@@ -26,8 +26,10 @@ public final class Edge21to29Test {
         t.wanting();
         t.pails();
         t.pailsOfSeveral();
+        t.pailsByTrying();
         t.together();
         t.leavingOut();
+        t.anyWhoHang();
         t.tasks();
         t.orders();
         t.waking();
@@ -181,6 +183,46 @@ public final class Edge21to29Test {
         });
     }
 
+    private void pailsByTrying() {
+        e.edge(22, "PAILS: how many (room NONE), how many into a room (below 0: out)", () -> {
+            int[][] wishes = {
+                {-1, -1, -1, -1}, {0, -1, -1, -1}, {-1, 0, -1, -1}, {-1, -1, 0, -1}, {-1, -1, -1, 0}, {-1, 6, -1, -1},
+                {-1, -1, 6, -1}, {-1, -1, 8, -1}, {-1, -1, 10, -1}, {-1, -1, -1, 4}, {-1, -1, -1, 8}, {6, -1, 6, -1},
+                {6, -1, -1, 6}, {0, 6, 4, -1}, {0, 6, 0, 4}, {2, -1, 4, 4}, {2, 4, 2, -1}, {-1, -1, -1, 10}, {-1, 4, -1, 2}
+            };
+            String[] towns = {
+                "l6,x2,a10,b30,h1;l4,x2,h1,u0", "l6,x2,a30,b10,h0;l4,x2,h1,u1", "l6,x2,h1;l4,x2,h2", "l6,x2;k1,l4,x2,b20,h2",
+                "k1,l6,x2,a10,b39;l4,x2,h0,u0", "k2,l6,x2;l4,x2,h1,u0", "l6,x2,h3,r1,b9;l4,x1,r1,u1,h1"
+            };
+            for (String town : towns) {
+                for (int[] wanted : wishes) {
+                    for (int water : new int[] {0, 1, 99}) {
+                        RopeRooms r = wet(town, water);
+                        for (int room = 0; room < 4; room++) {
+                            r.want(room, wanted[room]);
+                        }
+                        int[] given = Brute.pails(() -> wet(town, water), wanted);
+                        int n = 0;
+                        for (int room = 0; room < 4; room++) {
+                            int due = given == null ? HIDDEN : given[room];
+                            n += given == null ? 0 : Math.abs(given[room]);
+                            e.due("pails(" + room + ") of " + town, r.pails(room), due);
+                        }
+                        e.due("pails(NONE) of " + town, r.pails(-1), given == null ? HIDDEN : n);
+                    }
+                }
+            }
+        });
+    }
+
+    private static RopeRooms wet(String town, int water) {
+        RopeRooms r = Check.town(town);
+        r.water(0, water);
+        r.water(3, water);
+        r.brake(1, water != 1);
+        return r;
+    }
+
     // ---- promise 23
 
     private void together() {
@@ -253,6 +295,28 @@ public final class Edge21to29Test {
             hang.want(4, -1);
             hang.want(5, -1);
             e.due("one against two: 3, which can't be at 5 then", hang.together(1), 8);
+        });
+    }
+
+    private void anyWhoHang() {
+        e.edge(23, "the fewest rooms WANTED without which it can be", () -> {
+            String[] towns = {
+                "l2;l3,u1;l3,u2;k1,l4,u3", "l2;l2,u0;l2,u3;k1,l2,u1;l2,u5;l2,u9", "l3;l2,u1;l4,u3;k2,l2,u5;k1,l4,u7;l2,u0"
+            };
+            for (String town : towns) {
+                RopeRooms r = Check.town(town);
+                Brute all = new Brute(r);
+                int[] wanted = new int[2 * r.count(0)];
+                for (int i = 0; i < 150; i++) {
+                    for (int room = 0; room < wanted.length; room++) {
+                        wanted[room] = (i * 7 + room * (i + 3)) % 11 - 1;
+                        r.want(room, wanted[room]);
+                    }
+                    int out = all.leaveOut(wanted);
+                    e.due("together(1) of " + town + ", " + i, r.together(1), out);
+                    e.due("together(0) of " + town + ", " + i, r.together(0), out == 0 ? 1 : 0);
+                }
+            }
         });
     }
 
@@ -368,7 +432,7 @@ public final class Edge21to29Test {
             own.task(0, 0);
             e.due("its own PLACE does not MEET", own.orders(1), -1);
         });
-        e.refused(25, "NONE: no such what", Edges::some, -1,
+        e.refused(25, "NONE: no such what", () -> row(false), -1,
             List.of(r -> r.orders(2), r -> r.orders(-1), r -> r.orders(MIN), r -> r.orders(MAX)));
     }
 

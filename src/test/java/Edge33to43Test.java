@@ -66,6 +66,19 @@ public final class Edge33to43Test {
             r.want(2, 200);
             e.due("what is WANTED does not count", r.feast(1 | 4), 0);
         });
+        e.edge(33, "at which all of them can be at once, by some X of all ROPES", () -> {
+            String[] towns = {
+                "l2;l3,u1;l3,u2;k1,l4,u3", "l2;l2,u0;l2,u3;k1,l2,u1;l2,u5;l2,u9", "l3;l2,u1;l4,u3;k2,l2,u5;k1,l4,u7;l2,u0",
+                "k1,l6;l2;l3,u0;l3,u1;l2,u4;l2,u2"
+            };
+            for (String town : towns) {
+                RopeRooms r = Check.town(town);
+                Brute all = new Brute(r);
+                for (int some = 1; some < 1 << 2 * r.count(0); some++) {
+                    e.due("feast(" + some + ") of " + town, r.feast(some), all.feast(some));
+                }
+            }
+        });
         e.edge(33, "NONE: none", () -> {
             feast("l5", 3, -1);
             feast("k1,l8", 3, -1);
@@ -321,6 +334,12 @@ public final class Edge33to43Test {
             RopeRooms g = Check.town("l4");
             g.gallery(60);
             e.due("a GALLERY is no room", g.above(1), 0);
+            RopeRooms less = Check.town(CHAIN);
+            less.above(0);
+            Check.tape(less, "l4,x1");
+            less.text(0, 0);
+            e.due("nor are rooms of another TOWN", less.above(0), 2);
+            e.due("nothing is higher", less.above(1), 0);
         });
         e.edge(39, "NONE: no such room", () -> {
             for (int wrong : NO_ROOMS) {

@@ -17,6 +17,7 @@ final class Story {
         story.asItGoesOn();
         story.whatIsAdded();
         story.theTapeAsTown();
+        story.oneRuleMore();
         return story.told;
     }
 
@@ -101,5 +102,12 @@ final class Story {
         for (int p = 0; p < r.count(0); p++) {
             tell("rope(" + p + ", 1) of the new town", r.rope(p, 1));
         }
+    }
+
+    private void oneRuleMore() {
+        Check.tape(r, "y:t=1?1");
+        int rule = r.text(1, 3);
+        tell("text(1, 3)", rule);
+        tell("keep(" + rule + ", 3)", r.keep(rule, 3));
     }
 }
