@@ -26,6 +26,7 @@ public final class Edge21to29Test {
         t.wanting();
         t.pails();
         t.pailsOfSeveral();
+        t.pailsDeepDown();
         t.pailsByTrying();
         t.together();
         t.leavingOut();
@@ -180,6 +181,59 @@ public final class Edge21to29Test {
             deep.want(4, 0);
             deep.want(2, 2 - 2);
             due(deep, "one pail at the lowest moves all three", 1, 0, 0, 0, 0, 1, 0);
+        });
+    }
+
+    private void pailsDeepDown() {
+        e.edge(22, "carried into or out of rooms of the TOWN", () -> {
+            for (int hold = 0; hold <= 8; hold++) {
+                RopeRooms r = Check.town("k1,l6,x2,a10,b20,h" + hold);
+                r.want(0, 0);
+                int n = hold / 2 + 1;
+                due(r, "geared, HOLD " + hold, n > 4 ? HIDDEN : n, n > 4 ? HIDDEN : n, n > 4 ? HIDDEN : 0);
+            }
+            // A chain of six on first rooms, all but the ends held: one pail at its end moves both ends.
+            RopeRooms chain = Check.town("l4,x2,a1,b11,h0;l4,x2,a1,b1,h99,u0;l4,x2,a1,b1,h99,u2;l4,x2,a1,b1,h99,u4;"
+                + "l4,x2,a1,b1,h99,u6;l4,x2,a1,b1,h0,u8");
+            chain.want(0, 0);
+            chain.want(10, 8);
+            due(chain, "both ends of a chain", 1, 0, 0, 0, 0, 0, 0, 0, 0, 0, 0, 1, 0);
+            // The same with screws between, all other rooms full.
+            RopeRooms screws = Check.town("l4,x2,a1,b99,h0;k2,l4,a1,b1,u0;k2,l4,a1,b1,u2;k2,l4,a1,b1,u4;k2,l4,a1,b1,u6;"
+                + "k2,l4,a1,b1,u8");
+            int[] water = {87, 99, 0, 99, 0, 0, 0, 0, 0, 0, 0, 1};
+            for (int room = 0; room < 12; room++) {
+                screws.water(room, water[room]);
+            }
+            // Room 0 bears 1 and 87 and 10 and 99 and 1: as much as 99 and 99.
+            screws.want(1, 4);
+            due(screws, "into room 0", 1, 1, 0);
+            screws.want(1, 0);
+            due(screws, "out of room 0, which comes last: out of what hangs there", 1, 0, 0, 0, 0, 0, 0, 0, 0, 0, 0, 0, -1);
+            // A chain on second rooms; the last ROPE alone is WANTED elsewhere, then all are.
+            RopeRooms second = Check.town("l4,x2,a1,b1,h99;l4,x2,a1,b1,h99,u1;l4,x2,a1,b1,h99,u3;l4,x2,a1,b1,h99,u5;"
+                + "l4,x2,a1,b1,h99,u7;l4,x2,a1,b1,h0,u9");
+            second.want(10, 10);
+            due(second, "the last of a chain", 1, 0, 0, 0, 0, 0, 0, 0, 0, 0, 0, 1, 0);
+            for (int p = 0; p < 5; p++) {
+                second.want(2 * p, 2 * p + 2);
+                second.want(2 * p + 1, 2 * p + 2);
+            }
+            second.want(11, 14);
+            due(second, "all of a chain WANTED", 1, 0, 0, 0, 0, 0, 0, 0, 0, 0, 0, 1, 0);
+            second.want(9, 11);
+            due(second, "one of them elsewhere", HIDDEN, HIDDEN);
+            // The lowest of three alone is WANTED, those above must bring it there.
+            RopeRooms three = Check.town("l4,x2,a1,b5,h0;l4,x2,a1,b3,h1,u0;l4,x2,a1,b1,h2,u2");
+            for (int h = 0; h <= 12; h++) {
+                int want = h;
+                int[] wanted = {-1, -1, -1, -1, want, -1};
+                int[] given = Brute.pails(() -> Check.town("l4,x2,a1,b5,h0;l4,x2,a1,b3,h1,u0;l4,x2,a1,b1,h2,u2"), wanted);
+                three.want(4, want);
+                for (int room = 0; room < 6; room++) {
+                    e.due("room 4 at " + h + ": pails(" + room + ")", three.pails(room), given == null ? HIDDEN : given[room]);
+                }
+            }
         });
     }
 
