@@ -256,6 +256,13 @@ public final class Edge33to43Test {
             load("k1,x4,b20,h4", 0, 2);
             load("k1,x4,b20,h6", 0, 3);
             load("k2,x4,h0", 0, 99);
+            load("x5;x5;x5;x5;x5;x5,h9", 11, 9);
+            load("x5;x5;x5;x5;x5;x5,h9", 0, 5);
+            RopeRooms less = Check.town("x5,b99;x5,b99;x5,b99");
+            less.load(0);
+            Check.tape(less, "x5,h7");
+            less.text(0, 0);
+            e.due("ROPES of another TOWN do not go", less.load(0), 7);
             RopeRooms r = Check.town("x5,h5");
             r.water(0, 77);
             e.due("its own WATER as it is does not count", r.load(0), 5);
