@@ -993,9 +993,11 @@ public final class RopeRooms {
         void take(State other) {
             System.arraycopy(other.x, 0, x, 0, ROPES);
             System.arraycopy(other.travel, 0, travel, 0, ROPES);
-            System.arraycopy(other.on, 0, on, 0, ROPES);
             System.arraycopy(other.water, 0, water, 0, ROOMS);
             System.arraycopy(other.at, 0, at, 0, PERSONS);
+            for (int p = 0; p < ROPES; p++) {
+                on[p] = other.on[p];
+            }
             minutes = other.minutes;
             draws = other.draws;
         }

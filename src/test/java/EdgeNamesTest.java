@@ -7,8 +7,9 @@ import java.util.regex.Matcher;
 import java.util.regex.Pattern;
 
 /**
- * The names of boundary tests against the document: each names a sentence that stands there, each ground of refusal has
- * a test, and so has each bound in the terms. It runs in the project's folder.
+ * The names of tests against the document: each names a sentence that stands there, each ground of refusal has a test,
+ * so has each bound in the terms, and no word of the terms and of the promises is without one. It runs in the project's
+ * folder.
  */
 public final class EdgeNamesTest {
     private static final Check CHECK = new Check("EdgeNamesTest");
@@ -19,9 +20,13 @@ public final class EdgeNamesTest {
         doc = doc.replaceAll("==== \\d\\.", " ").replaceAll("\\s+", " ");
         String terms = between(doc, "## Terms", "## Promise 1:");
         List<Edges.Named> all = all();
-        namesStandThere(doc, terms, all);
+        namesStandThere(doc, between(doc, "## What it is", "## The public face") + terms, all);
         groundsHaveTests(doc, all);
         termsHaveTests(terms, all);
+        wordsHaveTests("the terms", terms, all, 0);
+        for (int n = 1; n <= PROMISES; n++) {
+            wordsHaveTests("promise " + n, promise(doc, n), all, n);
+        }
         CHECK.finish();
     }
 
@@ -33,6 +38,7 @@ public final class EdgeNamesTest {
         Edge21to29Test.tell(e);
         Edge30to32Test.tell(e);
         Edge33to43Test.tell(e);
+        SentenceTest.tell(e);
         return e.all;
     }
 
@@ -86,6 +92,32 @@ public final class EdgeNamesTest {
             }
         }
         CHECK.due("grounds were found", grounds >= 80, true);
+    }
+
+    /** What is left of a text, if all that tests name (those of one promise, or of all: 0) is taken out, is signs alone. */
+    private static void wordsHaveTests(String name, String text, List<Edges.Named> all, int promise) {
+        StringBuilder left = new StringBuilder(text);
+        for (Edges.Named one : all) {
+            if (promise == 0 || one.promise == promise) {
+                takeOut(left, text, one.sentence, 0);
+                // A ground further on in a row of them is named with the answer that stands ahead of the row.
+                Matcher ground = Pattern.compile("(NONE|HIDDEN|-2|False): (.*)").matcher(one.sentence);
+                if (ground.matches() && !text.contains(one.sentence)) {
+                    takeOut(left, text, ", " + ground.group(2), text.indexOf(ground.group(1) + ": "));
+                }
+            }
+        }
+        String words = left.toString().replaceAll("^ [A-Za-z ]+ `[^`]*`", "").replace("The constants", "");
+        words = words.replaceAll("(WAY|UNSEEN):", "").replaceAll("[^A-Za-z0-9]+", " ").strip();
+        CHECK.due("words of " + name + " without a test: '" + words + "'", words.isEmpty(), true);
+    }
+
+    private static void takeOut(StringBuilder left, String text, String words, int from) {
+        for (int at = text.indexOf(words, from); at >= 0; at = text.indexOf(words, at + 1)) {
+            for (int i = at; i < at + words.length(); i++) {
+                left.setCharAt(i, ' ');
+            }
+        }
     }
 
     /** Each bound in brackets and each phrase that names an edge lies within a sentence that has a test. */
