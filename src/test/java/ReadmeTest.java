@@ -42,23 +42,38 @@ public final class ReadmeTest {
         CHECK.due("three rows of commands", sh.size(), 3);
         if (java.size() == 1 && sh.size() == 3) {
             Path room = Files.createTempDirectory("readme");
-            ExecutorService many = Executors.newFixedThreadPool(4);
             try {
-                Path copy = project(room.resolve("copy"));
-                Files.writeString(copy.resolve("Example.java"), java.get(0));
-                Future<Done> example = many.submit(() -> run(copy, sh.get(0)));
-                Path wide = project(room.resolve("wide"));
-                Future<Done> search = many.submit(() -> run(wide, sh.get(2)));
-                theCommandRunsAll(room, many, sh.get(1).strip());
-                theExampleIsTrue(java.get(0), example.get());
-                theSearchGoes(search.get());
+                allIn(room, java.get(0), sh);
             } finally {
-                many.shutdown();
                 remove(room);
             }
         }
         theListIsWhole(page);
         CHECK.finish();
+    }
+
+    /** All folders are made before anything runs in one: a file that is being written can't be run. */
+    private static void allIn(Path room, String example, List<String> sh) throws IOException, InterruptedException,
+        ExecutionException {
+        String command = sh.get(1).strip();
+        Path copy = project(room.resolve("copy"));
+        Files.writeString(copy.resolve("Example.java"), example);
+        Path wide = project(room.resolve("wide"));
+        List<Path> small = projects(room, command);
+        ExecutorService many = Executors.newFixedThreadPool(4);
+        try {
+            Future<Done> shown = many.submit(() -> run(copy, sh.get(0)));
+            Future<Done> search = many.submit(() -> run(wide, sh.get(2)));
+            List<Future<Done>> runs = new ArrayList<>();
+            for (Path one : small) {
+                runs.add(many.submit(() -> run(one, command)));
+            }
+            theExampleIsTrue(example, shown.get());
+            theSearchGoes(search.get());
+            theCommandRunsAll(runs);
+        } finally {
+            many.shutdown();
+        }
     }
 
     private static List<String> blocks(String page, String sort) {
@@ -130,40 +145,39 @@ public final class ReadmeTest {
 
     // ---- the command for the tests
 
-    private static void theCommandRunsAll(Path room, ExecutorService many, String command) throws IOException,
-        InterruptedException, ExecutionException {
+    /** One in which all is well, then those in which something is not: the first six run all tests nevertheless. */
+    private static List<Path> projects(Path room, String command) throws IOException {
         CHECK.due("the command is a file of the project: " + command, Files.isExecutable(Path.of(command)), true);
-        List<Future<Done>> all = new ArrayList<>();
-        for (int i = 0; i < STUBS.length; i++) {
-            Path main = stubs(room.resolve("fails" + i), command);
-            write(main, STUBS[i], stub(STUBS[i], "System.exit(1);"));
-            all.add(many.submit(() -> run(main, command)));
+        List<Path> all = new ArrayList<>();
+        all.add(stubs(room.resolve("good"), command));
+        for (String name : STUBS) {
+            all.add(stubs(room.resolve("fails" + name), command));
+            write(all.get(all.size() - 1), name, stub(name, "System.exit(1);"));
         }
         for (int i = 0; i < STUBS.length; i += 2) {
-            Path main = stubs(room.resolve("throws" + i), command);
-            write(main, STUBS[i], stub(STUBS[i], "if (args.length == 0) throw new IllegalStateException();"));
-            all.add(many.submit(() -> run(main, command)));
+            all.add(stubs(room.resolve("throws" + i), command));
+            String end = "if (args.length == 0) throw new IllegalStateException();";
+            write(all.get(all.size() - 1), STUBS[i], stub(STUBS[i], end));
         }
-        Path wrong = stubs(room.resolve("wrong"), command);
-        write(wrong, STUBS[2], "no class at all");
-        all.add(many.submit(() -> run(wrong, command)));
-        Path nothing = stubs(room.resolve("nothing"), command);
-        write(nothing, STUBS[1], "no class at all");
-        all.add(many.submit(() -> run(nothing, command)));
-        Path alone = stubs(room.resolve("alone"), command);
-        remove(alone.resolve("../shared").normalize());
-        all.add(many.submit(() -> run(alone, command)));
-        Path good = stubs(room.resolve("good"), command);
-        Done fine = many.submit(() -> run(good, command)).get();
-        CHECK.due("all pass: " + fine.out, fine.code, 0);
-        ran("all pass", fine, Set.of());
-        for (int i = 0; i < all.size(); i++) {
-            CHECK.due("something fails, " + i + ": " + all.get(i).get().out, all.get(i).get().code != 0, true);
+        for (int i = 1; i <= 2; i++) {
+            all.add(stubs(room.resolve("wrong" + i), command));
+            write(all.get(all.size() - 1), STUBS[i], "no class at all");
         }
-        for (int i = 0; i < 6; i++) {
-            ran("one fails", all.get(i).get(), Set.of());
+        all.add(stubs(room.resolve("alone"), command));
+        remove(room.resolve("alone/shared"));
+        return all;
+    }
+
+    private static void theCommandRunsAll(List<Future<Done>> runs) throws InterruptedException, ExecutionException {
+        Done good = runs.get(0).get();
+        CHECK.due("all pass: " + good.out, good.code, 0);
+        for (int i = 1; i < runs.size(); i++) {
+            CHECK.due("something fails, " + i + ": " + runs.get(i).get().out, runs.get(i).get().code != 0, true);
         }
-        ran("one does not compile", all.get(6).get(), Set.of(STUBS[2]));
+        for (int i = 0; i <= 6; i++) {
+            ran("run " + i, runs.get(i).get(), Set.of());
+        }
+        ran("one of the shared tests does not compile", runs.get(8).get(), Set.of(STUBS[2]));
     }
 
     private static void ran(String when, Done done, Set<String> not) {
